@@ -516,6 +516,7 @@ public final class PromiseTest {
         }
         int[][] bad = {{-1, 0}, {4, 0}, {3, 4}, {2, -1}, {LOW, 0}, {HIGH, HIGH}, {0, LOW}};
         for (int[] a : bad) due(22, "act" + java.util.Arrays.toString(a), x.act(a[0], a[1]), NONE);
+        due(22, "the first one alone", one(3, 0, 1, 0, 0).act(0, 0), 0);
         due(22, "of nothing", new DeliveryBasket().act(0, 0), NONE);
         due(22, "of barred ones", barredOne().act(0, 0), NONE);
         DeliveryBasket like = one(3, 0, 2, 0, 200);
