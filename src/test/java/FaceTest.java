@@ -86,12 +86,33 @@ public final class FaceTest {
         }
     }
 
+    /** Rule 11: how long a method is, how many classes there are, how deep one stands in another. */
+    private static void sizes() throws Exception {
+        String[] lines = Files.readString(Path.of("src/main/java/DeliveryBasket.java")).split("\n");
+        int classes = 0;
+        int methods = 0;
+        for (int i = 0; i < lines.length; i++) {
+            String line = lines[i];
+            if (line.matches("\\s*(\\w+ )*(class|record|enum|interface) \\w+.*\\{")) classes++;
+            if (!line.matches(" {4}( {4})?[A-Za-z].*\\)( throws \\w+)? \\{") || line.matches("\\s*(if|for|while|switch|do|else)\\b.*")) continue;
+            String end = line.replaceAll("\\S.*", "") + "}";
+            int last = i;
+            while (last < lines.length - 1 && !lines[last].equals(end)) last++;
+            check(last - i < 60, "longer than sixty lines: " + line.trim());
+            methods++;
+        }
+        check(classes >= 1 && classes <= 12, "classes: " + classes);
+        check(methods > FACE.length, "methods seen: " + methods);
+        check(DeliveryBasket.class.getDeclaredClasses().length + 1 == classes, "a class inside a class inside");
+    }
+
     public static void main(String[] args) throws Exception {
         face();
         Set<String> names = new HashSet<>();
         for (String f : FACE) names.add(f.substring(f.indexOf(' ') + 1, f.indexOf('(')));
         inside(DeliveryBasket.class, names);
         text();
+        sizes();
         System.out.println(wrong == 0 ? "the face is as due" : wrong + " faults");
         if (wrong != 0) System.exit(1);
     }

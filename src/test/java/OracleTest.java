@@ -444,7 +444,7 @@ public final class OracleTest {
                 case "tree": return treeArguments();
                 case "rate": case "value": case "act": {
                     int d = from(0, ref.days);
-                    return new long[] {d, from(0, ref.in(d, 0, 20) ? d : 3)};
+                    return new long[] {d, from(0, Ref.in(d, 0, 20) ? d : 3)};
                 }
                 case "path": return new long[] {from(0, (1 << ref.days) - 1), upTo(2)};
                 case "often": case "fixed": return new long[] {from(0, ref.days)};
